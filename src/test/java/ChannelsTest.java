@@ -9,6 +9,7 @@ public final class ChannelsTest {
     public static void main(String[] args) {
         whatIsOpen();
         outputs();
+        outputsByTheirLastByte();
         inputs();
         inbox();
         outbox();
@@ -64,7 +65,8 @@ public final class ChannelsTest {
     }
 
     /** What the actuators show is DONE of channel 2; FRESH becomes that by the last byte alone. */
-    private static void outputsByTheirLastByte(Line line) {
+    private static void outputsByTheirLastByte() {
+        Line line = Line.inState(8, 2, 0);
         line.write(80, 5);
         line.x.tick();
         DUE.is("the first byte alone", line.x.actuator(0, 0), 0);
@@ -78,7 +80,6 @@ public final class ChannelsTest {
     }
 
     private static void inputs() {
-        outputsByTheirLastByte(Line.inState(8, 2, 0));
         Line line = Line.withOne(0, 2);
         line.x.setup();
         line.control(2);

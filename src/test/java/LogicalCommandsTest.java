@@ -12,6 +12,7 @@ public final class LogicalCommandsTest {
         dataAsTheyCame();
         aMapThatWritesAMap();
         throughChannels();
+        otherBitsOfAnInbox();
         readOnlyBytes();
         severalStations();
         DUE.end();
@@ -72,6 +73,13 @@ public final class LogicalCommandsTest {
         DUE.is("its bytes", line.peek(103), 44);
         DUE.is("behind it", line.peek(104), 5);
         DUE.is("an address far away", line.send(12, 65535, 0, 8), 0);
+        map(line, 0, 10, 0, 64, 100, 4, 2);
+        DUE.is("64 bits in nine bytes", line.send(11, 10, 0, 8, 255, 255, 255, 255, 255, 255, 255, 255), 1);
+        DUE.is("the first of nine bytes", line.peek(100), 0xf1);
+        DUE.is("the eighth of nine bytes", line.peek(107), 0xff);
+        DUE.is("the last of nine bytes", line.peek(108), 0x0f);
+        line.write(32, 10, 0, 8, 110, 0, 3);
+        DUE.is("there is no fifth map", line.send(10, 10, 0, 1), 0);
         map(line, 1, 255, 7, 8, 110, 0, 3);
         DUE.is("logical bits 2047 to 2054", line.send(12, 255, 0, 1, 128), 3);
         DUE.is("the bit", line.peek(110), 1);
@@ -189,6 +197,31 @@ public final class LogicalCommandsTest {
         ready.x.tick();
         DUE.is("reply", ready.x.answer(0), 1);
         DUE.is("kind 2, index 0: the lowest bits were those of DONE", ready.got(0), 2);
+    }
+
+    /** The value that a message of 44 bits leaves, beginning with bit 0 of the INBOX, when DONE has the rest. */
+    private static int valueByPart(boolean cleared) {
+        Line line = Line.inState(2, 0, 0);
+        line.x.ask(0, 1, 1, 0xa0000000);
+        line.x.tick();
+        line.x.answer(0);
+        if (cleared) {
+            line.write(35, 1);
+        }
+        map(line, 0, 0, 0, 44, 64, 0, 2);
+        DUE.is("44 bits in six bytes of an INBOX", line.send(11, 0, 0, 6, 1, 1, 7, 0, 0, 0xf5), 1);
+        line.x.tick();
+        line.x.answer(0);
+        line.x.ask(0, 2, 1, 0);
+        line.x.tick();
+        line.x.answer(0);
+        DUE.is("byte 0 of the value", line.got(2), 7);
+        return line.got(5);
+    }
+
+    private static void otherBitsOfAnInbox() {
+        DUE.is("other bits are as in DONE", valueByPart(false), 0xa5);
+        DUE.is("other bits are as in DONE, which was cleared", valueByPart(true), 0x05);
     }
 
     private static void readOnlyBytes() {

@@ -42,6 +42,7 @@ public final class MasterTest {
             DUE.is("the latest frame's counter", line.got(-1), count == 0 ? 0 : 1);
             DUE.is("the latest frame's address", line.got(-2), count == 0 ? 0 : 1);
             DUE.is("the latest frame's byte", line.got(0), count);
+            DUE.is("one byte", line.got(1), -1);
             for (int s = 0; s < count; s++) {
                 DUE.is("ADDRESS of station " + s, line.send(1, (65536 - s) % 65536, 0, 1), 1);
                 DUE.is("ADDRESS of station " + s, line.got(0), s + 1);

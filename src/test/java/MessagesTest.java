@@ -13,7 +13,7 @@ public final class MessagesTest {
         DUE.end();
     }
 
-    /** Asks, ticks and reads the answer: true if it is the one that is due. */
+    /** Asks, ticks and reads the answer, and compares that with the one that is due. */
     private static void reply(Line line, int[] message, int kind, int index, int value) {
         String what = "(" + message[0] + ", " + message[1] + ", " + message[2] + ")";
         DUE.is("ask" + what, line.x.ask(0, message[0], message[1], message[2]), 1);

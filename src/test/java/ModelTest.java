@@ -208,9 +208,9 @@ public final class ModelTest {
                 case 3 -> of(0, 1, 1, 1, 1, 2);
                 case 10 -> random.nextInt(26);
                 case 11 -> random.nextInt(10);
-                case 12 -> of(0, 1, 7, 8, 12, 16, 48, 64, 65, random.nextInt(65));
+                case 12 -> of(0, 1, 7, 8, 12, 16, 44, 48, 64, 65, random.nextInt(65));
                 case 13 -> of(0, 1, 8, 13, 14, 20, 32, 44, 64, 72, 79, 80, 81, 96, 120, 127, random.nextInt(140));
-                case 14 -> of(0, 0, 0, random.nextInt(10));
+                case 14 -> of(0, 0, random.nextInt(10));
                 case 15 -> random.nextInt(5);
                 default -> anyByte();
             };

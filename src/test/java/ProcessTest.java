@@ -142,6 +142,14 @@ public final class ProcessTest {
         DUE.is("age 2", again.state(), 8);
         again.x.tick();
         DUE.is("age 3", again.state(), 20 + 256 * 27);
+        Line once = Line.inState(4, 1, 0);
+        once.write(4, 1);
+        once.x.cycle();
+        once.control(24);
+        once.x.tick();
+        once.x.cycle();
+        once.x.tick();
+        DUE.is("a request is not done again", once.state(), 20 + 256 * 27);
         Line wrong = watched(1);
         wrong.control(7);
         DUE.is("the watch has the last word on the error", wrong.state(), 20 + 256 * 27);

@@ -50,11 +50,10 @@ public final class StatesTest {
         line.x.request(1);
         line.x.tick();
         DUE.is("the latest of two requests", line.state(), 1);
-        line.control(2);
-        DUE.is("a channel is closed", line.state(), error(1, 22));
+        DUE.is("a channel is closed", line.control(18), error(1, 22));
         line.write(32, 64);
         line.x.tick();
-        DUE.is("an error stays", line.state(), error(1, 22));
+        DUE.is("a request is not done again", line.state(), error(1, 22));
         Line other = Line.inState(1, 0, 0);
         other.write(1, 2);
         other.x.tick();
