@@ -1,13 +1,23 @@
 /** Compares answers with those that are due, prints the wrong ones, and ends the test. */
 final class Due {
+    static final int LEAST = Integer.MIN_VALUE;
+    static final int GREATEST = Integer.MAX_VALUE;
+
+    private String sentence = "";
     private int looked;
     private int wrong;
+
+    /** The words of the document that the answers from here on are to show. */
+    void sentence(String words) {
+        sentence = words;
+    }
 
     void is(String call, long got, long want) {
         looked++;
         if (got != want) {
             wrong++;
-            System.out.println(call + " answered " + got + ", due is " + want);
+            System.out.println(call + " answered " + got + ", due is " + want
+                    + (sentence.isEmpty() ? "" : "  [" + sentence + "]"));
         }
     }
 
