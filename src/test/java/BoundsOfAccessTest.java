@@ -12,6 +12,7 @@ public final class BoundsOfAccessTest {
         lostWritesOfFull();
         openChannels();
         areas();
+        placesOfChannels();
         leastNumber();
         modes();
         rowsAreNotTheMemory();
@@ -24,6 +25,7 @@ public final class BoundsOfAccessTest {
         outputsByWriting();
         inboxIfWholeAndEmpty();
         outboxIfWholeAndFull();
+        eachChannelOfTheRow();
         nothingOfItIsDone();
         firstByteOfInputs();
         lastByteOfOutputs();
@@ -63,7 +65,7 @@ public final class BoundsOfAccessTest {
     }
 
     private static void plainBytes() {
-        DUE.sentence("What frames write to 2, 3 and 48 to 51 is lost; all others keep it");
+        DUE.sentence("All others are plain. What frames write to 2, 3 and 48 to 51 is lost");
         for (int b = 0; b < 128; b++) {
             for (int value : new int[] {0xa5, 0xff, 1}) {
                 Line line = new Line();
@@ -166,6 +168,30 @@ public final class BoundsOfAccessTest {
                         DUE.is(what, line.read(b, 1), within(b, start, length) ? 0 : 1);
                     }
                 }
+            }
+        }
+    }
+
+    private static void placesOfChannels() {
+        DUE.sentence("from 32 + 4 c on CHANNEL c (0 to 3): START, LENGTH, MODE, ON; 48 + c: FULL of channel c");
+        for (int at = 5; at <= 56; at++) {
+            Line line = Line.withOne(0, 0);
+            line.write(at, 100, 2, OUTPUTS, 1);
+            boolean isChannel = at == 32 || at == 36 || at == 40 || at == 44;
+            DUE.is("four bytes from " + at + " on", line.read(100, 1), isChannel ? 0 : 1);
+            line.write(40, 110, 2, OUTPUTS, 1);
+            DUE.is("channel 2 beside them", line.read(111, 1), 0);
+        }
+        Line map = Line.withOne(0, 0);
+        map.write(40, 64, 2, OUTPUTS, 1);
+        map.write(26, 0, 0, 64, 8, OUTPUTS, 1);
+        DUE.is("a map is no channel", map.read(64, 1), 0);
+        for (int c = 0; c < 4; c++) {
+            Line line = Line.withOne(0, 0);
+            line.write(32 + 4 * c, 100, 1, INBOX, 1);
+            line.write(100, 1);
+            for (int other = 0; other < 4; other++) {
+                DUE.is("channel " + c + " is full: byte " + (48 + other), line.peek(48 + other), other == c ? 1 : 0);
             }
         }
     }
@@ -320,6 +346,17 @@ public final class BoundsOfAccessTest {
             line.x.answer(0);
             DUE.is("byte " + (32 + i) + ": DONE was 0", line.got(5), 0);
         }
+        for (int i = 0; i < 4; i++) {
+            Line line = Line.inState(2, 0, 0);
+            line.x.ask(0, 1, 1, 5);
+            line.write(32 + i, line.peek(32 + i));
+            line.write(8, 0, 0, 44, 64, 4, 2);
+            DUE.is("44 bits from bit 4 on", line.send(11, 0, 0, 6, 0x10, 0, 0, 0, 0, 0), 1);
+            line.x.tick();
+            line.x.answer(0);
+            DUE.is("byte " + (32 + i) + ": the kind in DONE was 0", line.got(2), 1);
+            DUE.is("the index", line.got(1), 1);
+        }
     }
 
     private static void clearingIsNoRenewal() {
@@ -449,7 +486,7 @@ public final class BoundsOfAccessTest {
     }
 
     private static void outboxIfWholeAndFull() {
-        DUE.sentence("OUTBOX reading, if FULL is 1 and the row has the whole area; when OUTBOX was read, FULL becomes 0");
+        DUE.sentence("OUTBOX reading, if FULL is 1 and the row has the whole area. .. when OUTBOX was read, FULL becomes 0");
         for (int first = 68; first <= 78; first++) {
             for (int length = 1; length <= 8; length++) {
                 String what = length + " bytes from " + first;
@@ -469,6 +506,29 @@ public final class BoundsOfAccessTest {
                     DUE.is(what + ": the last byte but two", line.got(75 - first), 1000 / 256);
                 }
                 DUE.is(what + ": FULL", line.peek(49), whole && !message ? 0 : 1);
+            }
+        }
+    }
+
+    private static void eachChannelOfTheRow() {
+        DUE.sentence("and each channel whose bytes are among them allows it");
+        for (int mode = 0; mode <= 4; mode++) {
+            for (int other = 0; other <= 4; other++) {
+                Line line = Line.withOne(0, 0);
+                channel(line, 2, 100, 2, mode);
+                channel(line, 1, 102, 2, other);
+                boolean takes = mode == OUTPUTS || mode == INBOX;
+                boolean otherTakes = other == OUTPUTS || other == INBOX;
+                String what = "MODE " + mode + " and " + other + ": ";
+                DUE.is(what + "both", line.write(99, 1, 2, 3, 4, 5, 6), takes && otherTakes ? 1 : 0);
+                DUE.is(what + "the byte before", line.peek(99), takes && otherTakes ? 1 : 0);
+                DUE.is(what + "the byte behind", line.peek(104), takes && otherTakes ? 6 : 0);
+                DUE.is(what + "FULL of 2", line.peek(50), mode == INBOX && otherTakes ? 1 : 0);
+                DUE.is(what + "FULL of 1", line.peek(49), other == INBOX && takes ? 1 : 0);
+                boolean full = mode == INBOX && otherTakes;
+                DUE.is(what + "the first one", line.write(99, 1, 2, 3), takes && !full ? 1 : 0);
+                boolean otherFull = other == INBOX && takes;
+                DUE.is(what + "the second one", line.write(102, 4, 5, 6), otherTakes && !otherFull ? 1 : 0);
             }
         }
     }

@@ -22,7 +22,9 @@ public final class BoundsOfCallsTest {
         lowestBitsOfData();
         bytesOfData();
         sendsWhatIsReady();
+        oneToThreeDatagrams();
         sendsNothing();
+        masterLeavesWhatIsReady();
         returnedBytes();
         returnedNothing();
         cuts();
@@ -277,6 +279,21 @@ public final class BoundsOfCallsTest {
         DUE.is("none is ready then", line.x.send(), -1);
     }
 
+    private static void oneToThreeDatagrams() {
+        DUE.sentence("a COUNTER, 0 at first. A FRAME has 1 to 3 of them.");
+        for (int size = 0; size <= 4; size++) {
+            Line line = stations(2);
+            for (int d = 0; d < size; d++) {
+                line.x.datagram(d % 2 == 0 ? 7 : 4, 9, 2, 1);
+            }
+            DUE.is(size + " datagrams: send()", line.x.send(), size == 0 ? -1 : 1);
+            for (int d = 0; d < 4; d++) {
+                int due = d >= Math.min(size, 3) ? -1 : d % 2 == 0 ? 2 : 0;
+                DUE.is(size + " datagrams: counter of " + d, line.x.returned(d, -1), due);
+            }
+        }
+    }
+
     private static void sendsNothing() {
         DUE.sentence("-1, refused, if it has no datagrams.");
         Line line = stations(1);
@@ -288,6 +305,42 @@ public final class BoundsOfCallsTest {
         DUE.is("RETURNED is what it was", line.got(0), 1);
         DUE.is("the next frame is spoilt", line.x.request(1), -1);
         DUE.is("send() after the master's frames", line.x.send(), -1);
+    }
+
+    private static void masterLeavesWhatIsReady() {
+        DUE.sentence("(frames that the master sends by other calls do not change it)");
+        for (int ready = 0; ready <= 3; ready++) {
+            Line line = new Line();
+            StationLine x = line.x;
+            x.station(2, 2);
+            x.station(2, 2);
+            for (int d = 0; d < ready; d++) {
+                x.datagram(4, 200 + d, 0, 8);
+                for (int i = 0; i < 8; i++) {
+                    x.data(d, i, 10 * d + i);
+                }
+            }
+            String what = ready + " datagrams are ready: ";
+            DUE.is(what + "scan()", x.scan(), 2);
+            DUE.is(what + "setup()", x.setup(), 2);
+            DUE.is(what + "request(2)", x.request(2), 2);
+            x.tick();
+            DUE.is(what + "request(4)", x.request(4), 2);
+            x.tick();
+            DUE.is(what + "cycle()", x.cycle(), 0);
+            DUE.is(what + "ask(1, 2, 1, 0)", x.ask(1, 2, 1, 0), 1);
+            x.tick();
+            DUE.is(what + "answer(1)", x.answer(1), 1);
+            DUE.is(what + "send()", x.send(), ready == 0 ? -1 : 1);
+            for (int d = 0; d < ready; d++) {
+                DUE.is(what + "address", x.returned(d, -2), 200 + d);
+                DUE.is(what + "counter", x.returned(d, -1), 0);
+                for (int i = 0; i < 8; i++) {
+                    DUE.is(what + "byte " + i + " of " + d, x.returned(d, i), 10 * d + i);
+                }
+            }
+            DUE.is(what + "none behind them", x.returned(ready, -2), ready == 0 ? 2 : -1);
+        }
     }
 
     private static void returnedBytes() {

@@ -23,6 +23,7 @@ public final class BoundsOfDatagramsTest {
         bytesNotBelowTheEnd();
         types();
         asTheyCame();
+        inTheirOrder();
         otherBitsOfPlainBytes();
         otherBitsOfOutputs();
         otherBitsOfAnInbox();
@@ -247,6 +248,12 @@ public final class BoundsOfDatagramsTest {
             DUE.is("six bytes from " + at + " on", line.send(10, 5, 0, 1), isMap ? 1 : 0);
             DUE.is("six bytes from " + at + " on", line.got(0), isMap ? 77 : 0);
         }
+        Line before = Line.withOne(0, 0);
+        before.write(4, 8, 100, 0, 3);
+        DUE.is("STATUS, CODE, LIMIT and three bytes are no map", before.send(12, 1, 0, 1), 0);
+        Line behind = Line.withOne(0, 0);
+        behind.write(32, 5, 0, 8, 100, 0, 3);
+        DUE.is("channels are no map", behind.send(12, 5, 0, 1), 0);
     }
 
     private static void addressesBeyondTheMaps() {
@@ -435,6 +442,36 @@ public final class BoundsOfDatagramsTest {
         DUE.is("what the last one reads", line.got(0), 11);
         DUE.is("station 0 writes the master's", byteOf(line, 0, 101), 99);
         DUE.is("station 1 writes station 0's", byteOf(line, 1, 101), 10);
+    }
+
+    private static void inTheirOrder() {
+        DUE.sentence("For each map, in their order");
+        for (int m = 0; m < 3; m++) {
+            Line line = Line.withOne(0, 0);
+            line.write(100, 51, 52);
+            map(line, m, 0, 0, 8, 100, 0, 1);
+            map(line, m + 1, 0, 0, 8, 101, 0, 1);
+            line.send(10, 0, 0, 1, 9);
+            DUE.is("both read into one byte: the later one's", line.got(0), 52);
+            map(line, m, 0, 0, 8, 102, 0, 2);
+            map(line, m + 1, 1, 0, 8, 102, 0, 2);
+            line.send(11, 0, 0, 2, 7, 8);
+            DUE.is("both write to one byte: the later one's", line.peek(102), 8);
+            map(line, m, 0, 0, 8, 103, 0, 2);
+            map(line, m + 1, 1, 0, 8, 103, 0, 1);
+            line.send(12, 0, 0, 2, 7, 8);
+            DUE.is("the later one reads what the earlier one wrote", line.got(1), 7);
+            map(line, m, 1, 0, 8, 103, 0, 1);
+            map(line, m + 1, 0, 0, 8, 103, 0, 2);
+            line.send(12, 0, 0, 2, 6, 8);
+            DUE.is("the earlier one reads what was before", line.got(1), 7);
+            DUE.is("the later one writes then", line.peek(103), 6);
+            map(line, m, 0, 0, 8, 8 + 6 * (m + 1) + 3, 0, 2);
+            map(line, m + 1, 1, 0, 8, 104, 0, 2);
+            line.send(11, 0, 0, 2, 105, 44);
+            DUE.is("an earlier one that writes PHYSICAL byte of the later one", line.peek(105), 44);
+            DUE.is("its byte of before", line.peek(104), 0);
+        }
     }
 
     private static void otherBitsOfPlainBytes() {

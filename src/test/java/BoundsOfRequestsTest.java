@@ -115,11 +115,26 @@ public final class BoundsOfRequestsTest {
         line.write(39, 1);
         line.x.tick();
         DUE.is("CONTROL is still 2, but was not written", line.state(), error(1, 22));
+        line.write(39, 0);
+        DUE.is("with bit 4, and the same answer", line.control(18), error(1, 22));
+        line.write(39, 1);
+        line.x.tick();
+        DUE.is("CONTROL is still 18, but was not written", line.state(), error(1, 22));
         line.x.spoil(0);
         line.x.request(18);
         line.x.tick();
         DUE.is("a frame that did not get there", line.state(), error(1, 22));
-        DUE.is("CONTROL", line.peek(1), 2);
+        DUE.is("CONTROL", line.peek(1), 18);
+        line.control(18);
+        line.control(4);
+        line.write(4, 1);
+        line.write(80, 1);
+        DUE.is("RUN by CONTROL 24", line.control(24), 8);
+        line.x.tick();
+        DUE.is("the watch", line.state(), NO_FRESH_OUTPUTS);
+        line.write(80, 1);
+        line.x.tick();
+        DUE.is("CONTROL is still 24, but was not written", line.state(), NO_FRESH_OUTPUTS);
     }
 
     private static void writtenByAnyFrame() {
@@ -297,6 +312,14 @@ public final class BoundsOfRequestsTest {
             DUE.is("FRESH alone", line.control(24), NO_FRESH_OUTPUTS);
             line.write(81, 4);
             DUE.is("since SAFE", line.control(24), 8);
+        }
+        for (int c : new int[] {0, 1, 3}) {
+            Line line = Line.inState(2, 1, 0);
+            line.write(80, 1);
+            line.control(4);
+            line.write(32 + 4 * c, 100, 1, 2, 1);
+            line.write(100, 5);
+            DUE.is("OUTPUTS of channel " + c, line.control(8), NO_FRESH_OUTPUTS);
         }
         for (int lower = 1; lower <= 2; lower++) {
             Line line = in(8);

@@ -508,14 +508,17 @@ public final class BoundsOfTickTest {
         two.write(80, 5);
         two.x.tick();
         DUE.is("FRESH alone: age 3", two.state(), WATCHED);
-        Line other = Line.inState(8, 1, 0);
-        other.write(4, 2);
-        other.write(32, 100, 1, 2, 1);
-        other.write(100, 5);
-        other.x.tick();
-        other.write(100, 5);
-        other.x.tick();
-        DUE.is("OUTPUTS of another channel: age 3", other.state(), WATCHED);
+        for (int c : new int[] {0, 1, 3}) {
+            Line other = Line.inState(8, 1, 0);
+            other.write(4, 2);
+            other.write(32 + 4 * c, 100, 1, 2, 1);
+            other.write(100, 5);
+            other.x.tick();
+            DUE.is("age 2", other.state(), 8);
+            other.write(100, 5);
+            other.x.tick();
+            DUE.is("OUTPUTS of channel " + c + ": age 3", other.state(), WATCHED);
+        }
         Line box = Line.inState(8, 1, 0);
         box.write(4, 2);
         box.write(42, 3);

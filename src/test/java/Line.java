@@ -1,5 +1,8 @@
 /** What several tests do with a line: frames with one datagram, and stations in a certain state. */
 final class Line {
+    /** No answer that any test takes for right. */
+    private static final int REFUSED = -99;
+
     final StationLine x = new StationLine();
 
     /** A new line with one station, whose ADDRESS is 1. */
@@ -49,9 +52,11 @@ final class Line {
         return read(offset, 1) == 1 ? x.returned(0, 0) : -1;
     }
 
-    /** Sends a frame with one datagram: its counter, or -1 if it does not come back. */
+    /** Sends a frame with one datagram: its counter, -1 if it does not come back, REFUSED if there is none. */
     int send(int command, int address, int offset, int length, int... bytes) {
-        x.datagram(command, address, offset, length);
+        if (x.datagram(command, address, offset, length) != 0) {
+            return REFUSED;
+        }
         for (int i = 0; i < bytes.length; i++) {
             x.data(0, i, bytes[i]);
         }

@@ -4,8 +4,12 @@ import java.util.Random;
 
 /** All promises: many runs of calls, made by a fixed seed, on StationLine and on the Model side by side. */
 public final class ModelTest {
-    private static final int RUNS = 4000;
-    private static final int CALLS = 512;
+    private static final int RUNS = 30000;
+    /** An object is used for at most so many calls. */
+    private static final int MOST_CALLS = 512;
+    /** At least as many as one step of a run makes: three datagrams with all their data. */
+    private static final int STEP = 40;
+    private static final int LOOK = 6 * 5 + 5 * 12 + 26;
     private static final int[] CONTROLS = {1, 2, 4, 8, 17, 18, 20, 24, 0, 3, 31, 16};
     private static final int[] OFFSETS = {0, 1, 2, 3, 4, 8, 14, 20, 26, 32, 36, 40, 44, 48, 64, 72, 80, 81, 96, 97};
     private static final int[] BYTES = {0, 1, 2, 3, 4, 6, 8, 16, 24, 64, 66, 72, 80, 82, 96, 97, 120, 127, 128, 255};
@@ -16,6 +20,7 @@ public final class ModelTest {
     private final Model y = new Model();
     private final Deque<String> calls = new ArrayDeque<>();
     private int stations;
+    private int made;
     private boolean differs;
 
     private ModelTest(long seed) {
@@ -45,15 +50,20 @@ public final class ModelTest {
         }
         // Some runs stay near what a master does, others write at random into what it set up.
         int wild = random.nextInt(6);
-        for (int i = 0; i < CALLS && !differs; i++) {
+        while (made + STEP + LOOK <= MOST_CALLS && !differs) {
             if (random.nextInt(6) < wild) {
                 frame();
             } else {
                 orderly();
             }
-            if (random.nextInt(4) == 0) {
+            if (random.nextInt(40) == 0 && made + STEP + 2 * LOOK <= MOST_CALLS) {
                 look();
             }
+        }
+        look();
+        if (made > MOST_CALLS) {
+            System.out.println("a run of " + made + " calls");
+            return false;
         }
         return !differs;
     }
@@ -64,6 +74,7 @@ public final class ModelTest {
     }
 
     private void made(String call) {
+        made++;
         calls.addLast(call);
         if (calls.size() > 40) {
             calls.removeFirst();
@@ -176,6 +187,11 @@ public final class ModelTest {
         }
         if (random.nextInt(10) > 0) {
             same("send()", x.send(), y.send());
+            for (int d = 0; d < wished; d++) {
+                int i = random.nextInt(8);
+                same("returned(" + d + ", -1)", x.returned(d, -1), y.returned(d, -1));
+                same("returned(" + d + ", " + i + ")", x.returned(d, i), y.returned(d, i));
+            }
         }
     }
 
@@ -220,6 +236,7 @@ public final class ModelTest {
 
     /** Everything that can be looked at without changing it. */
     private void look() {
+        made += LOOK;
         for (int s = 0; s < stations; s++) {
             seen("state", x.state(s), y.state(s));
             for (int i = -1; i < 3; i++) {

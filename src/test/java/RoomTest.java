@@ -3,7 +3,8 @@ import java.lang.management.ManagementFactory;
 /** All calls of one run live in one room: calls but the constructor and station make nothing. */
 public final class RoomTest {
     private static final Due DUE = new Due();
-    private static final int CALLS = 512;
+    /** So many that all calls of an object together are somewhat less than 512. */
+    private static final int ROUNDS = 27;
     /** What the measuring itself makes is less than this; one object a call would be more. */
     private static final int SLACK = 4096;
 
@@ -14,7 +15,7 @@ public final class RoomTest {
         long before = allocated();
         calls(x, sum);
         long made = allocated() - before;
-        DUE.is("bytes made by " + CALLS + " calls: " + made + ", few", made < SLACK, true);
+        DUE.is("bytes made by " + ROUNDS + " rounds of calls: " + made + ", few", made < SLACK, true);
         DUE.end();
     }
 
@@ -40,7 +41,7 @@ public final class RoomTest {
     private static void calls(StationLine x, int[] sum) {
         x.scan();
         x.setup();
-        for (int i = 0; i < CALLS / 16; i++) {
+        for (int i = 0; i < ROUNDS; i++) {
             sum[0] += x.request(1 << i % 4) + x.cycle() + x.ask(i % 6, 2, 3, 0);
             x.tick();
             sum[0] += x.answer(i % 6) + x.input(i % 24) + x.actuator(i % 6, 0) + x.state(i % 6);
