@@ -9,7 +9,7 @@ public final class ModelTest {
     private static final int MOST_CALLS = 512;
     /** At least as many as one step of a run makes: three datagrams with all their data. */
     private static final int STEP = 40;
-    private static final int LOOK = 6 * 5 + 5 * 12 + 26;
+    private static final int LOOK = 8 * 5 + 5 * 12 + 26;
     private static final int[] CONTROLS = {1, 2, 4, 8, 17, 18, 20, 24, 0, 3, 31, 16};
     private static final int[] OFFSETS = {0, 1, 2, 3, 4, 8, 14, 20, 26, 32, 36, 40, 44, 48, 64, 72, 80, 81, 96, 97};
     private static final int[] BYTES = {0, 1, 2, 3, 4, 6, 8, 16, 24, 64, 66, 72, 80, 82, 96, 97, 120, 127, 128, 255};
@@ -107,7 +107,7 @@ public final class ModelTest {
     }
 
     private int oddly(int value) {
-        return random.nextInt(30) == 0 ? of(-1, -3, 9, 24, 65536, 128, random.nextInt()) : value;
+        return random.nextInt(30) == 0 ? of(-1, -3, 0, 3, 9, 24, 65536, 128, random.nextInt()) : value;
     }
 
     private void station(int outputs, int inputs) {
@@ -153,7 +153,7 @@ public final class ModelTest {
         int s = anyStation();
         int i = oddly(random.nextInt(2));
         int value = anyByte();
-        switch (random.nextInt(24)) {
+        switch (random.nextInt(26)) {
             case 0 -> station(oddly(random.nextInt(3)), oddly(random.nextInt(3)));
             case 1 -> same("cut(" + s + ", true)", x.cut(s, true), y.cut(s, true));
             case 2, 3 -> {
@@ -169,14 +169,30 @@ public final class ModelTest {
             case 9, 10 -> request(random.nextInt(8) == 0 ? random.nextInt() : of(CONTROLS));
             case 11, 12 -> output();
             case 13, 14, 15 -> cycle();
-            case 16, 17 -> {
-                int kind = oddly(random.nextInt(4));
-                int index = oddly(random.nextInt(5));
-                same("ask(" + s + ", " + kind + ", " + index + ", " + value + ")",
-                        x.ask(s, kind, index, value), y.ask(s, kind, index, value));
+            case 16, 17 -> ask(s, oddly(random.nextInt(4)), oddly(random.nextInt(5)), value);
+            case 18, 19 -> answer(s);
+            case 20, 21 -> {
+                int index = 1 + random.nextInt(3);
+                ask(s, 1, index, random.nextInt());
+                tick();
+                answer(s);
+                ask(s, 2, index, value);
+                tick();
+                answer(s);
             }
-            case 18, 19 -> same("answer(" + s + ")", x.answer(s), y.answer(s));
             default -> tick();
+        }
+    }
+
+    private void ask(int s, int kind, int index, int value) {
+        same("ask(" + s + ", " + kind + ", " + index + ", " + value + ")",
+                x.ask(s, kind, index, value), y.ask(s, kind, index, value));
+    }
+
+    private void answer(int s) {
+        same("answer(" + s + ")", x.answer(s), y.answer(s));
+        for (int i = 0; i < 6; i++) {
+            same("returned(0, " + i + ")", x.returned(0, i), y.returned(0, i));
         }
     }
 
@@ -237,7 +253,7 @@ public final class ModelTest {
     /** Everything that can be looked at without changing it. */
     private void look() {
         made += LOOK;
-        for (int s = 0; s < stations; s++) {
+        for (int s = -1; s <= stations; s++) {
             seen("state", x.state(s), y.state(s));
             for (int i = -1; i < 3; i++) {
                 seen("actuator", x.actuator(s, i), y.actuator(s, i));
